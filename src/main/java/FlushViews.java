@@ -588,8 +588,7 @@ public final class FlushViews {
         private int draftLength;
 
         Law() {
-            code[0] = 1;
-            codeLength = 1;
+            forget();
         }
 
         void forget() {

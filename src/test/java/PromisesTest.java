@@ -105,6 +105,10 @@ public final class PromisesTest {
             .fails("group", times(60, "limit 5;") + " limit 5;", -7, 481)
             .fails("group", times(60, "limit 5;") + "limits 5;", -9, 480)
             .fails("group", times(60, "limit 5;") + "5;", -9, 480)
+            .fails("group", times(595, " ") + "limit", -9, 600).fails("group", times(599, " ") + "l", -9, 599)
+            // Bytes on the tape behind the first n are no part of the text.
+            .feed("limit 25;".getBytes()).due("group(7)", -9, "fault()", 7)
+            .feed("limited".getBytes()).due("group(5)", -9, "fault()", 5)
             .due("told(0)", 4, "told(7)", 1, "member(0,5)", 7, "count(2)", 1);
     }
 
@@ -129,6 +133,9 @@ public final class PromisesTest {
             .says("law", "7+(0-512*512*512*16)%(0-1)", 1).due("member(0,5)", 7)
             .says("law", "((((((8))))))+((((((9))))))", 1).due("member(0,5)", 17)
             .says("law", "least[1,least[2,most[3,(4)]]]", 1).due("member(0,5)", 1)
+            .says("law", times(6, "least[") + "12" + times(6, ",50]"), 1).due("member(0,5)", 12)
+            .says("law", times(6, "most[5,") + "12" + times(6, "]"), 1).due("member(0,5)", 12)
+            .feed("4*5".getBytes()).due("law(1)", 1, "member(0,5)", 4)
             .says("law", "000000000000999", 1).due("member(0,5)", 99)
             .says("law", times(74, "0+") + "42", 1).due("member(0,5)", 42)
             .due("law(-1)", IAE, "law(1)", IAE)
@@ -145,7 +152,8 @@ public final class PromisesTest {
             .fails("law", "2*/3", -9, 2).fails("law", "age size", -9, 4).fails("law", "1;", -9, 1).fails("law", "1a", -9, 1)
             .fails("law", "(((((((1)))))))", -7, 6).fails("law", "((((((least[1,2]))))))", -7, 6)
             .fails("law", "((((((foo))))))", -9, 6).fails("law", "((((((1(", -9, 7)
-            .fails("law", "least[1,((((( most ", -7, 14)
+            .fails("law", "least[1,((((( most ", -7, 14).fails("law", times(7, "least["), -7, 36).fails("law", times(7, "most[1,"), -7, 42)
+            .fails("law", times(6, "least[") + "(", -7, 36).fails("law", "(1)+" + times(6, "(") + "most", -7, 10)
             .due("member(0,5)", 5);
     }
 
@@ -214,6 +222,8 @@ public final class PromisesTest {
             .due("told(10)", 2, "told(6)", 0);
         new Run("5 hold").says("group", THREE, 3).says("work", "part 4;hold;hold;part 0;hold;", 4).due("told(10)", 1, "told(4)", 7)
             .says("work", "crash 0;crash 1;hold;", 2).due("told(4)", 4, "told(10)", 1);
+        new Run("5 hold leaves others").says("group", times(5, "member 1;"), 5).says("work", "part 1;hold;part 2;", 3).due("told(4)", 30)
+            .says("work", "hold;", 1).due("told(4)", 31);
         new Run("5 held are refused").says("group", "member 1;member 1;", 2)
             .says("work", "hold;again 9 [send 0 3;];send 1 5;crash 0;", 11).due("told(10)", 1, "member(0,4)", 0, "member(1,4)", 1, "told(4)", 2);
     }
@@ -223,6 +233,8 @@ public final class PromisesTest {
         new Run("5 view of none").says("group", "member 1;member 1;", 2).says("work", "part 1;hold;view;", 1).due("told(10)", 2);
         new Run("5 view not all blocked").says("group", THREE, 3).says("work", "part 4;hold;part 2;view;hold;view;", 5)
             .due("told(10)", 1, "told(1)", 2, "told(2)", 5);
+        three("5 view by the law of now").says("work", "hold;crash 2;", 2).says("law", "member*50", 1).says("work", "view;", 0)
+            .says("law", "2-member", 1).says("work", "view;", 1).due("told(2)", 3);
         // 2 sends out of sight and is not a survivor; what 0 keeps is handed round, what only 2 has got is lost.
         new Run("5 flush").says("group", FOUR, 4)
             .says("work", "send 0 1;send 2 8;send 1 2;lose 1;part 4;join 3;hold;send 1 50;send 0 60;send 0 61;part 12;send 2 7;", 12)
@@ -260,6 +272,9 @@ public final class PromisesTest {
             .due("book(-1)", IAE, "book(1)", IAE).feed(new byte[80])
             .due("book(61)", IAE, "count(1)", 80, "book(60)", -9, "fault()", 0, "count(1)", 0, "told(9)", 3)
             .says("work", "crash 0;", 1).due("told(9)", 3, "undo()", 0, "told(9)", 3);
+        new Run("6 all are told").says("group", times(6, "member 1;"), 6).says("book", "5 1;4 0;3 1;2 0;1 1;0 0;", 6)
+            .fails("book", "5 1;4 0;3 1;2 0;1 1;0 0;5 1;", -8, 24).fails("book", "5 1;4 0;3 1;2 0;1 1;0 0;6 1;", -8, 24)
+            .fails("book", "5 1;4 0;3 1;2 0;1 1;0 0; ;", -9, 25).due("told(9)", 6);
         new Run("6 nobody is told").fails("book", "0 1;", -8, 0).says("book", " ", 0);
     }
 
@@ -404,6 +419,7 @@ public final class PromisesTest {
         new Run("31 behind").says("group", "member 0;" + THREE, 4).due("behind(0)", 1, "behind(1)", 0).says("work", "send 1 1;send 3 1;take 3;", 3)
             .due("behind(0)", 2, "behind(1)", 0).says("work", "take 2;", 1).due("behind(0)", 1, "behind(1)", 1).says("work", "take 1;", 1)
             .due("behind(0)", 2, "behind(1)", 1, "behind(2)", IAE, "behind(-1)", IAE).says("work", "crash 1;crash 2;crash 3;", 3).due("behind(0)", -1, "behind(1)", -1);
+        new Run("31 behind with all of 30").says("group", "member 0;member 1;", 2).says("work", "again 31 [send 1 1;];", 30).due("behind(0)", 1, "behind(1)", 30);
     }
 
     private static void stormAndSpan() {
@@ -423,6 +439,9 @@ public final class PromisesTest {
             .due("restore()", 2, "told(10)", 0, "told(3)", 7, "told(6)", 0, "told(7)", 2, "count(2)", 1, "member(0,5)", 7, "told(9)", 1)
             .due("undo()", 0, "told(7)", 0, "image()", 3, "restore()", 2, "undo()", -1, "restore()", 1, "told(7)", 2, "count(2)", 1, "restore()", 0, "restore()", -1,
                 "undo()", 0, "told(7)", 0);
+        three("34 works of an image").says("work", "send 0 1;", 1).says("work", "send 0 2;", 1).due("image()", 1, "undo()", 1, "undo()", 0)
+            .says("work", "part 1;", 1).says("work", "part 2;", 1).due("restore()", 0, "told(7)", 2, "told(6)", 0, "undo()", 1, "told(7)", 1,
+                "told(6)", 0, "undo()", 0, "told(7)", 0, "told(6)", 0);
         Run r = three("34 an image of 16 works");
         for (int i = 0; i < 16; i++) {
             r.says("work", "send 0 " + i + ";", 1);
