@@ -1,9 +1,9 @@
 /** Each promise of the document by hand: ordinary inputs, the edges that it names, wrong inputs. */
 public final class PromisesTest {
-    private static final String NSE = "NoSuchElementException";
-    private static final String IAE = "IllegalArgumentException";
-    private static final String NPE = "NullPointerException";
-    private static final String IOB = "IndexOutOfBoundsException";
+    private static final String NSE = Run.NSE;
+    private static final String IAE = Run.IAE;
+    private static final String NPE = Run.NPE;
+    private static final String IOB = Run.IOB;
     private static final String THREE = "member 1;member 1;member 1;";
     private static final String FOUR = THREE + "member 0;";
 
@@ -41,8 +41,7 @@ public final class PromisesTest {
         stormAndSpan();
         imageAndRestore();
         statusAndCount();
-        System.out.println("PromisesTest: " + (Run.wrong == 0 ? "all as due" : Run.wrong + " wrong"));
-        System.exit(Run.wrong == 0 ? 0 : 1);
+        Run.end("PromisesTest");
     }
 
     private static Run three(String name) {

@@ -7,11 +7,18 @@ import java.util.regex.Pattern;
 
 /** A run of calls, told as texts, on a fresh object; prints each answer that is not the one due. */
 final class Run {
+    static final String NSE = "NoSuchElementException";
+    static final String IAE = "IllegalArgumentException";
+    static final String NPE = "NullPointerException";
+    static final String IOB = "IndexOutOfBoundsException";
     static int wrong;
 
+    /** What an object answers behind its 512th call is free: such a run would test nothing. */
+    private static final int MOST_CALLS = 512;
     private static final Pattern NUMBER = Pattern.compile("-?\\d+");
     private final String name;
     private final FlushViews object = new FlushViews();
+    private int calls;
 
     Run(String name) {
         this.name = name;
@@ -42,15 +49,101 @@ final class Run {
     Run feed(byte[] bytes) {
         ByteBuffer b = ByteBuffer.allocate((bytes.length + 19) / 20 * 20).put(bytes).rewind();
         while (b.hasRemaining()) {
+            countCall();
             object.feed(b.getInt(), b.getInt(), b.getInt(), b.getInt(), b.getInt());
         }
         return this;
     }
 
+    /** A text is fed, but not read yet. */
+    Run feed(String text) {
+        return feed(text.getBytes(StandardCharsets.ISO_8859_1));
+    }
+
+    Run group(String text) {
+        return says("group", text, text.split("member", -1).length - 1);
+    }
+
+    /** A WORK of which so many STEPS are done, and so many REFUSED. */
+    Run work(String text, int done, int refused) {
+        return says("work", text, done).due("told(10)", refused);
+    }
+
+    /** A WORK all of whose STEPS are done. */
+    Run work(String text, int done) {
+        return work(text, done, 0);
+    }
+
+    /** A STEP that is REFUSED, and changes nothing. */
+    Run refuses(String step) {
+        String before = state();
+        work(step, 0, 1);
+        check("all that is told behind '" + step + "'", before, state());
+        return this;
+    }
+
+    /** Texts that have this FAULT at this place, and change nothing. */
+    Run faults(String reader, int answer, Object... textsAndPlaces) {
+        String before = state();
+        for (int i = 0; i < textsAndPlaces.length; i += 2) {
+            fails(reader, (String) textsAndPlaces[i], answer, (Integer) textsAndPlaces[i + 1]);
+        }
+        check("all that is told behind faults", before, state());
+        return this;
+    }
+
+    /** These calls change nothing that is told. */
+    Run changesNothing(Object... rows) {
+        String before = state();
+        due(rows);
+        check("all that is told", before, state());
+        return this;
+    }
+
+    /** What is told of all that WORK changes, and of the GROUP and the BOOK, as one text. */
+    private String state() {
+        StringBuilder s = new StringBuilder();
+        int members = Integer.parseInt(answer("told(0)"));
+        for (int what : new int[] {0, 1, 2, 3, 4, 5, 6, 7, 8, 9, 11}) {
+            tell(s, "told(" + what + ")");
+        }
+        for (int k = 0; k < Integer.parseInt(answer("told(7)")); k++) {
+            for (int what = 0; what < 5; what++) {
+                tell(s, "message(" + k + "," + what + ")");
+            }
+        }
+        for (int m = 0; m < members; m++) {
+            tellMember(s, m, members);
+        }
+        return s.toString();
+    }
+
+    private void tellMember(StringBuilder s, int m, int members) {
+        for (int what = 0; what < 7; what++) {
+            tell(s, "member(" + m + "," + what + ")");
+        }
+        tell(s, "tally(" + m + ")");
+        for (int other = 0; other < members; other++) {
+            tell(s, "knows(" + m + "," + other + ")");
+        }
+        for (int i = 0; i < Integer.parseInt(answer("member(" + m + ",4)")); i++) {
+            tell(s, "held(" + m + "," + i + ")");
+        }
+        int entries = Integer.parseInt(answer("member(" + m + ",6)"));
+        if (entries > 0) {
+            tell(s, "log(" + m + "," + (entries - 1) + ")");
+        }
+    }
+
+    private void tell(StringBuilder s, String call) {
+        s.append(call).append(' ').append(answer(call)).append("; ");
+    }
+
     Run note(String due) {
         StringBuilder s = new StringBuilder();
-        for (int i = 0; i < object.note(); i++) {
-            s.append((char) object.spelt(i));
+        int signs = Integer.parseInt(answer("note()"));
+        for (int i = 0; i < signs; i++) {
+            s.append((char) Integer.parseInt(answer("spelt(" + i + ")")));
         }
         check("note", due, s.toString());
         return this;
@@ -63,7 +156,22 @@ final class Run {
         }
     }
 
+    private void countCall() {
+        calls++;
+        if (calls == MOST_CALLS + 1) {
+            wrong++;
+            System.out.println(name + ": the run has more than " + MOST_CALLS + " calls");
+        }
+    }
+
+    /** Ends a test: exit code 1, if any answer was not the one due. */
+    static void end(String test) {
+        System.out.println(test + ": " + (wrong == 0 ? "all as due" : wrong + " wrong"));
+        System.exit(wrong == 0 ? 0 : 1);
+    }
+
     private String answer(String call) {
+        countCall();
         String method = call.substring(0, call.indexOf('('));
         Matcher numbers = NUMBER.matcher(call.substring(call.indexOf('(')));
         Object[] args = numbers.results().map(r -> (Object) Integer.valueOf(r.group())).toArray();
