@@ -122,6 +122,10 @@ public final class BoundsOfCallsTest {
                 "told(7)", 2, "told(8)", 3, "member(0,1)", 1, "member(3,1)", 0, "member(0,4)", 2, "held(0,0)", 2, "held(0,1)", 3,
                 "tally(0)", 2, "tally(1)", 12, "tally(3)", 0, "member(0,6)", 1, "log(1,1)", 12, "log(3,0)", NPE, "knows(0,1)", 1,
                 "knows(2,1)", 1, "message(1,1)", 4, "message(0,3)", 3, "message(1,4)", 5, "next(2)", 0);
+        // What is written behind it stands in the same places: another send HELD, another sender, another LOG.
+        three("8 is undone: what is HELD").work("hold;send 0 2;send 0 3;", 3).isUndone("crash 2;view;hold;send 0 8;send 0 9;");
+        three("8 is undone: MESSAGES").work("send 2 5;take 1;tell 1;", 3).isUndone("crash 2;hold;view;send 1 6;take 0;tell 0;");
+        three("8 is undone: LOGS").work("send 2 5;", 1).isUndone("crash 2;join 2;hold;view;send 0 7;");
         three("8 LAW and BOOK are no WORK").work("part 1;", 1).says("law", "7", 1).says("book", "0 1;", 1)
             .due("undo()", 0, "member(0,5)", 7, "told(9)", 1);
     }
@@ -269,6 +273,12 @@ public final class BoundsOfCallsTest {
         new Run("22 TELLS: of all six").group(SIX).due("tells()", 0).work("send 0 1;send 1 1;send 2 1;send 3 1;send 4 1;", 5)
             .due("tells()", 5).work("send 5 1;", 1).due("tells()", 6).work("tell 0;", 1).due("tells()", 5).work("take 0;", 1)
             .due("tells()", 6).work("crash 5;", 1).due("tells()", 5).work("part 1;", 1).due("tells()", 4);
+        for (int deaf = 0; deaf < 3; deaf++) {
+            int teller = (deaf + 1) % 3;
+            three("22 TELLS: " + deaf + " alone does not KNOW it")
+                .work("part " + (1 << deaf) + ";send " + teller + " 1;tell " + teller + ";", 3).due("tells()", 0).work("part 0;", 1)
+                .due("tells()", 1).work("tell " + teller + ";", 1).due("tells()", 0);
+        }
         three("22 everybody who is UP and IN, and whom it reaches").work("send 0 1;part 1;", 2).due("tells()", 0).work("part 4;", 1)
             .due("tells()", 1).work("tell 0;", 1).due("tells()", 0).work("part 0;", 1).due("tells()", 1).work("crash 2;", 1)
             .due("tells()", 0);
@@ -341,6 +351,8 @@ public final class BoundsOfCallsTest {
     private static void spelt() {
         three("29 NONE: there are not so many").due("note()", 10, "spelt(0)", 118, "spelt(9)", 48, "spelt(10)", -1, "spelt(11)", -1,
                 "spelt(64)", -1, "spelt(2147483647)", -1, "status(1)", 0);
+        three("29 of NOTE as it is now").due("spelt(0)", 118, "spelt(3)", 48).work("hold;", 1).due("spelt(4)", 33).work("crash 0;", 1)
+            .due("spelt(4)", 63).due("undo()", 1, "spelt(4)", 33);
         three("29 IllegalArgumentException: i below 0").due("spelt(-1)", IAE, "spelt(-2147483648)", IAE, "status(1)", 2);
     }
 
@@ -367,6 +379,9 @@ public final class BoundsOfCallsTest {
         new Run("A STORM: are there MEMBERS").due("storm(1,96,16,0)", 1, "storm(1,96,16,1)", 0, "storm(1,96,16,2)", 0,
                 "storm(1,96,16,3)", 1);
         // crash 2, take 1, tell 0, send 0 43, which is HELD, and a VIEW, in which both that are HELD are sent.
+        // By -1 are drawn 15929, 4409 (1 by 8), 9862.
+        new Run("A STORM: of one MEMBER").group("member 1;")
+            .due("storm(-1,1,0,2)", 1, "storm(-1,1,0,1)", 1, "span(-1,1,1,0,2,0)", 1, "span(44,1,1,1,2,0)", 0);
         three("Asked, nothing stays changed: storm, span").work("send 0 1;hold;send 0 2;part 4;", 4)
             .changesNothing("storm(1,8,2,0)", 2, "storm(1,8,2,1)", 3, "storm(1,8,2,2)", 2, "storm(1,7,2,2)", 1, "span(1,1,8,2,1,0)", 2,
                 "span(1,1,8,2,2,2)", 0, "told(10)", 0);

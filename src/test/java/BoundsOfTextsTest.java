@@ -21,6 +21,7 @@ public final class BoundsOfTextsTest {
         workNumbers();
         bookText();
         numbersWordsBlanks();
+        misspeltWords();
         faultPlaces();
         tooManyOpen();
         ofOneTheLeast();
@@ -208,6 +209,35 @@ public final class BoundsOfTextsTest {
                 "hold;\u0000", 5, "hold;\u001f", 5, "hold;!", 5)
             .faults("group", -9, "limit\u0000001;", 5, "limit 1;\u0020\u0000", 9, "\u00e9", 0, "\u00ff", 0, "limit 1;\u0080", 8)
             .faults("law", -9, "1\t", 1, "\u00b2", 0, "\u0660", 0).faults("book", -9, "0\t1;", 1);
+    }
+
+    private static void misspeltWords() {
+        misspell("group", "member", " 1;");
+        misspell("group", "limit", " 1;");
+        for (String word : new String[] {"member", "age", "view", "size"}) {
+            misspell("law", word, "");
+        }
+        misspell("law", "least", "[1,2]");
+        misspell("law", "most", "[1,2]");
+        misspell("work", "send", " 0 1;");
+        for (String word : new String[] {"take", "lose", "tell", "trim", "crash", "join", "part"}) {
+            misspell("work", word, " 0;");
+        }
+        misspell("work", "hold", ";");
+        misspell("work", "view", ";");
+        misspell("work", "again", " 0 [];");
+    }
+
+    /** Each letter in turn is another one, or is not there, or is there twice. */
+    private static void misspell(String reader, String word, String rest) {
+        Run run = three("1 what can't stand there: " + word + " with a wrong letter");
+        for (int i = 0; i < word.length(); i++) {
+            String head = word.substring(0, i);
+            String tail = word.substring(i + 1);
+            char letter = word.charAt(i);
+            run.fails(reader, head + (letter == 'z' ? 'a' : (char) (letter + 1)) + tail + rest, -9, 0)
+                .fails(reader, head + tail + rest, -9, 0).fails(reader, head + letter + letter + tail + rest, -9, 0);
+        }
     }
 
     private static void faultPlaces() {

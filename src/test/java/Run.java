@@ -100,14 +100,29 @@ final class Run {
         return this;
     }
 
+    /** A WORK behind which all is as it was ahead of it, once it is undone; and so once more, by an IMAGE. */
+    Run isUndone(String work) {
+        String before = state();
+        due("image()", 1).feed(work).answer("work(" + work.length() + ")");
+        String between = state();
+        answer("undo()");
+        check("all that is told behind undo() of '" + work + "'", before, state());
+        feed(work).answer("work(" + work.length() + ")");
+        check("all that is told behind '" + work + "' once more", between, state());
+        due("restore()", 0);
+        check("all that is told behind restore() of what was ahead of '" + work + "'", before, state());
+        return this;
+    }
+
     /** What is told of all that WORK changes, and of the GROUP and the BOOK, as one text. */
     private String state() {
         StringBuilder s = new StringBuilder();
-        int members = Integer.parseInt(answer("told(0)"));
+        int members = number("told(0)");
+        int messages = number("told(7)");
         for (int what : new int[] {0, 1, 2, 3, 4, 5, 6, 7, 8, 9, 11}) {
             tell(s, "told(" + what + ")");
         }
-        for (int k = 0; k < Integer.parseInt(answer("told(7)")); k++) {
+        for (int k = 0; k < messages; k++) {
             for (int what = 0; what < 5; what++) {
                 tell(s, "message(" + k + "," + what + ")");
             }
@@ -126,13 +141,18 @@ final class Run {
         for (int other = 0; other < members; other++) {
             tell(s, "knows(" + m + "," + other + ")");
         }
-        for (int i = 0; i < Integer.parseInt(answer("member(" + m + ",4)")); i++) {
+        int sends = number("member(" + m + ",4)");
+        for (int i = 0; i < sends; i++) {
             tell(s, "held(" + m + "," + i + ")");
         }
-        int entries = Integer.parseInt(answer("member(" + m + ",6)"));
-        if (entries > 0) {
-            tell(s, "log(" + m + "," + (entries - 1) + ")");
+        int entries = number("member(" + m + ",6)");
+        for (int i = 0; i < entries; i++) {
+            tell(s, "log(" + m + "," + i + ")");
         }
+    }
+
+    private int number(String call) {
+        return Integer.parseInt(answer(call));
     }
 
     private void tell(StringBuilder s, String call) {
@@ -141,9 +161,9 @@ final class Run {
 
     Run note(String due) {
         StringBuilder s = new StringBuilder();
-        int signs = Integer.parseInt(answer("note()"));
+        int signs = number("note()");
         for (int i = 0; i < signs; i++) {
-            s.append((char) Integer.parseInt(answer("spelt(" + i + ")")));
+            s.append((char) number("spelt(" + i + ")"));
         }
         check("note", due, s.toString());
         return this;
