@@ -300,13 +300,13 @@ public final class FlushViews {
         needMember(member);
         need(isWithin(seeds, 1, MOST_SEEDS) && isWithin(many, 1, MOST_TIMES));
         need(isWithin(q, 0, MOST_Q) && isWithin(what, 0, 2));
-        int least = Integer.MAX_VALUE;
+        int least = 0;
         int greatest = 0;
         int times = 0;
         for (int i = 0; i < seeds; i++) {
             trial.copy(now);
             weather.blow(trial, quorum, seed + i, many, q);
-            least = Math.min(least, trial.number);
+            least = i == 0 ? trial.number : Math.min(least, trial.number);
             greatest = Math.max(greatest, trial.number);
             times += trial.stands(member) ? 1 : 0;
         }
@@ -879,7 +879,7 @@ public final class FlushViews {
             refused = 0;
         }
 
-        void run(State state, Quorum quorum, int from, int to, int open) {
+        private void run(State state, Quorum quorum, int from, int to, int open) {
             int i = from;
             for (int steps = from; steps < to && i >= 0 && i < to && i < kinds.length; steps++) {
                 if (begun >= MOST_BEGUN || open > MOST_OPEN) {
